@@ -31,7 +31,7 @@ final class ModelTest {
                 write(run);
             } else {
                 String name = NAMES[draw(NAMES.length)];
-                // Few images and blanks, so that runs come far.
+                // Seldom these two, so that much is seen and changed in between.
                 if (!name.equals("forget") && !name.equals("restore") || draw(4) == 0) {
                     compare(run, name, argument(name, 0), argument(name, 1), argument(name, 2));
                 }
@@ -57,8 +57,7 @@ final class ModelTest {
             }
         }
         if (draw(3) == 0) {
-            text.setCharAt(draw(text.length()), "kclxanesw,bpqK"
-                .charAt(draw(14)));
+            text.setCharAt(draw(text.length()), "kclxanesw,bpqK".charAt(draw(14)));
         }
         for (int i = 0; i < text.length(); i++) {
             compare(run, "letter", text.charAt(i), 0, 0);

@@ -119,6 +119,18 @@ final class ToldTest {
         };
         Check.due("digest() of hills", ways.digest(), folded(all));
         Check.due("digest() changes nothing", ways.digest(), folded(all));
+        digestOfFartherWays();
+    }
+
+    /** Each hour near 1 and 5 has another place, and each of places 0 and 5 another stick. */
+    private static void digestOfFartherWays() {
+        long[] all = {
+            4, 3, 5, 0, 20, 3, 6, 3, 3, 3, 2, 2, 2, 8, 3, 2,
+            0, 5, 1, 0, 1, 1, 2, 0, -1, -1, -1, -1, 1, 1, 1, 1,
+            3, 0, 2, 3,
+            2, 6, 7, 4, 0, 0, 0, 1,
+        };
+        Check.due("digest() of farther ways", Check.of("adwwwss,kfn").digest(), folded(all));
     }
 
     private static long folded(long[] numbers) {
