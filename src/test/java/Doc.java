@@ -13,11 +13,13 @@ import java.util.regex.Pattern;
 final class Doc {
     static final int TERMS = 0;
     private static final int PROMISES = 24;
+    static final int WHAT_IT_IS = PROMISES + 1;
     private static final Path FILE = Path.of("../shared/DOC.md");
     private static final Pattern SIGNATURE = Pattern.compile("^`[^`]*`:");
     private static final Pattern WORD = Pattern.compile("\\w+");
 
-    private static final String[] TEXT = read();
+    private static final String ALL = file();
+    private static final String[] TEXT = sections();
     private static final boolean[][] QUOTED = new boolean[TEXT.length][];
 
     static {
@@ -29,42 +31,62 @@ final class Doc {
     private Doc() {
     }
 
-    /** The terms are section 0, and each promise is the section of its number. */
-    private static String[] read() {
+    private static String file() {
         if (!Files.exists(FILE)) {
-            System.out.println("no " + FILE + " here: quotes are not compared with it");
-            return new String[0];
+            System.out.println("no " + FILE + " here: nothing is compared with it");
+            return "";
         }
-        String all;
         try {
-            all = Files.readString(FILE);
+            return Files.readString(FILE);
         } catch (IOException e) {
             throw new UncheckedIOException(e);
         }
-        String[] sections = new String[PROMISES + 1];
-        String terms = section(all, "## Terms").replaceAll("(?m)^Ahead of the calls .*$", "");
+    }
+
+    /** The terms are section 0, each promise is the section of its number, what it is the last. */
+    private static String[] sections() {
+        if (!isHere()) {
+            return new String[0];
+        }
+        String[] sections = new String[WHAT_IT_IS + 1];
+        String terms = section("## Terms").replaceAll("(?m)^Ahead of the calls .*$", "");
         sections[TERMS] = joined(terms.replaceAll("```(text)?", " ").replaceAll("=+ \\d", " "));
         for (int promise = 1; promise <= PROMISES; promise++) {
-            String text = joined(section(all, "## Promise " + promise + ":"));
+            String text = joined(section("## Promise " + promise + ":"));
             sections[promise] = SIGNATURE.matcher(text).replaceFirst("").strip();
         }
+        sections[WHAT_IT_IS] = joined(section("## What it is"));
         return sections;
     }
 
+    static boolean isHere() {
+        return !ALL.isEmpty();
+    }
+
+    /** The public face as it is printed. */
+    static String face() {
+        return section("## The public face");
+    }
+
+    /** Of the groups of calls: the names of the calls, then what stands ahead of them. */
+    static Matcher groups() {
+        return Pattern.compile("(?m)^Ahead of the calls (.*) the interface says: (.*)\\.$").matcher(section("## Terms"));
+    }
+
     /** What stands behind a heading's line, up to the next heading. */
-    private static String section(String all, String heading) {
-        int begin = all.indexOf('\n', all.indexOf("\n" + heading) + 1);
-        int end = all.indexOf("\n## ", begin);
-        return end < 0 ? all.substring(begin) : all.substring(begin, end);
+    private static String section(String heading) {
+        int begin = ALL.indexOf('\n', ALL.indexOf("\n" + heading) + 1);
+        int end = ALL.indexOf("\n## ", begin);
+        return end < 0 ? ALL.substring(begin) : ALL.substring(begin, end);
     }
 
     private static String joined(String text) {
         return text.replaceAll("\\s+", " ").strip();
     }
 
-    /** To be called ahead of the checks of this sentence of a promise, or of TERMS. */
+    /** To be called ahead of the checks of this sentence of a promise, of TERMS or WHAT_IT_IS. */
     static void says(int section, String sentence) {
-        if (section >= TEXT.length) {
+        if (!isHere()) {
             return;
         }
         int begin = TEXT[section].indexOf(sentence);

@@ -434,6 +434,8 @@ final class EdgesOfTold {
     }
 
     private static void fiveHundredAndTwelveCalls() {
+        Doc.says(Doc.WHAT_IT_IS, "An object is used for at most 512 calls after it has been made;"
+            + " what later calls answer is free.");
         StickWays ways = Check.of("kae,kbw");
         int calls = "kae,kbw".length() + 1;
         int lateBy = 0;

@@ -1,9 +1,14 @@
+import java.io.IOException;
 import java.lang.reflect.Constructor;
 import java.lang.reflect.Field;
 import java.lang.reflect.Method;
 import java.lang.reflect.Modifier;
+import java.nio.file.Files;
+import java.nio.file.Path;
 import java.util.Set;
 import java.util.TreeSet;
+import java.util.regex.Matcher;
+import java.util.regex.Pattern;
 
 /** The public face, as the document prints it, and nothing else that is not private. */
 final class FaceTest {
@@ -15,7 +20,9 @@ final class FaceTest {
         "int mornings(int,int,int)", "int image()", "int restore()", "int count(int)",
         "long digest()");
 
-    public static void main(String[] args) {
+    private static final Path SOURCE = Path.of("src/main/java/StickWays.java");
+
+    public static void main(String[] args) throws IOException, ReflectiveOperationException {
         Check.due("NONE", StickWays.NONE, -1);
         Check.due("UNKNOWN", StickWays.UNKNOWN, -101);
         Check.due("OUTSIDE", StickWays.OUTSIDE, -102);
@@ -23,6 +30,10 @@ final class FaceTest {
         Check.due("FULL", StickWays.FULL, -104);
         theClassItself();
         theClassesInside();
+        if (Doc.isHere()) {
+            asTheDocumentPrintsIt();
+            inTheDocumentsGroups();
+        }
         Check.end();
     }
 
@@ -65,6 +76,45 @@ final class FaceTest {
             Check.due(inside + " is not public",
                 !Modifier.isPublic(modifiers) && !Modifier.isProtected(modifiers));
         }
+    }
+
+    private static void asTheDocumentPrintsIt() throws ReflectiveOperationException {
+        String face = Doc.face();
+        Set<String> methods = new TreeSet<>();
+        Matcher printed = Pattern.compile("public ((?:int|long) \\w+\\(.*\\));").matcher(face);
+        while (printed.find()) {
+            methods.add(printed.group(1).replaceAll("int \\w+(?=[,)])", "int").replace(", ", ","));
+        }
+        Check.due("the document prints " + methods, methods.equals(METHODS));
+        int constants = 0;
+        Matcher constant = Pattern.compile("([A-Z]+) = (-\\d+)").matcher(face);
+        while (constant.find()) {
+            constants++;
+            Field field = StickWays.class.getField(constant.group(1));
+            Check.due(field.getName(), field.getInt(null), Integer.parseInt(constant.group(2)));
+        }
+        Check.due("the document prints constants", constants, 5);
+    }
+
+    /** The source declares the calls in the document's order, each group behind its headline. */
+    private static void inTheDocumentsGroups() throws IOException {
+        String source = Files.readString(SOURCE);
+        int groups = 0;
+        int last = 0;
+        Matcher group = Doc.groups();
+        while (group.find()) {
+            groups++;
+            int headline = source.indexOf("    // " + group.group(2) + "\n", last);
+            Check.due("the headline " + group.group(2), headline > last);
+            last = Math.max(headline, last);
+            Matcher name = Pattern.compile("\\w+").matcher(group.group(1));
+            while (name.find()) {
+                int declared = source.indexOf(" " + name.group() + "(", last);
+                Check.due(name.group() + " is declared behind those ahead of it", declared > last);
+                last = Math.max(declared, last);
+            }
+        }
+        Check.due("groups of calls", groups, 5);
     }
 
     private static String told(Method method) {
